@@ -348,6 +348,15 @@ public final class PromisesTest {
         due("18 of several the least place", x.first(0), 0);
         due("18 of several the least place", x.first(2), 1);
         due("18 asking wears nothing", x.many(2), 9);
+        x = with("p01;f000127;f000127;f000127;f000127");
+        for (int t = 0; t < 19; t++) {
+            x.go(500);
+        }
+        x.go(499);
+        x.jam(0, 0);
+        // 9999 is shown: the first step flips bars 4 and 6, bar 0 flips behind 1001 steps
+        due("17 behind one step", x.dies(0, 4), 1);
+        due("17 behind 1001 steps", x.dies(0, 0), NONE);
         x = with("p05;f000000");
         x.go(9);
         // the middle has flipped with 1 -> 2, 6 -> 7, 7 -> 8, and does with 9 -> 0 and 1 -> 2
