@@ -1114,24 +1114,24 @@ public final class BarFigures {
 
         private void search() {
             least = NOT_YET;
-            extend(0, 0, 0);
+            extend(this, 0, 0, 0);
         }
 
         /** Tries rows in their order, so that of several that are as good the first one stays. */
-        private void extend(int depth, int used, int together) {
-            if (together >= least) {
+        private static void extend(Ordering o, int depth, int used, int together) {
+            if (together >= o.least) {
                 return;
             }
-            if (depth >= count) {
-                least = together;
-                System.arraycopy(row, 0, best, 0, count);
+            if (depth >= o.count) {
+                o.least = together;
+                System.arraycopy(o.row, 0, o.best, 0, o.count);
                 return;
             }
-            for (int k = 0; k < count; k++) {
+            for (int k = 0; k < o.count; k++) {
                 if ((used >> k & 1) == 0) {
-                    row[depth] = k;
-                    int gap = depth == 0 ? 0 : gaps[row[depth - 1] * MOST_IN_ORDER + k];
-                    extend(depth + 1, used | 1 << k, together + gap);
+                    o.row[depth] = k;
+                    int gap = depth == 0 ? 0 : o.gaps[o.row[depth - 1] * MOST_IN_ORDER + k];
+                    extend(o, depth + 1, used | 1 << k, together + gap);
                 }
             }
         }

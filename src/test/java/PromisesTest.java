@@ -76,11 +76,12 @@ public final class PromisesTest {
             35, 33,
             19, 2, 1, 2, 5, 6};
         for (int t = 0; t < faulty.length; t++) {
-            due("2 " + faulty[t], panelBy(x, faulty[t]), -100 - places[t]);
-            due("2 no fault by " + faulty[t], x.fault(), 0);
+            BarFigures y = with("p99;f127127;m001002;t119109;f100010");
+            due("2 " + faulty[t], panelBy(y, faulty[t]), -100 - places[t]);
+            due("2 no fault by " + faulty[t], y.fault(), 0);
+            due("2 a faulty text changes nothing", y.ofPlace(2, 1), 119);
+            due("2 a faulty text changes nothing", y.many(0), 4);
         }
-        due("2 a faulty text changes nothing", x.ofPlace(2, 1), 119);
-        due("2 a faulty text changes nothing", x.many(0), 4);
     }
 
     private static void panelAnew() {
