@@ -131,7 +131,10 @@ public final class EdgesOfStepsTest {
         due("17 behind 1000 STEPS now", x.dies(0, 0), 1000);
         x = Edges.with("p01;f000000");
         x.go(1);
-        due("17 DEAD now by its WEAR", x.dies(0, 0), NONE);
+        int[] next = {NONE, 4, 1, NONE, NONE, NONE, 1};
+        for (int bar = 0; bar < 7; bar++) {
+            due("17 DEAD now by its WEAR, or not yet, bar " + bar, x.dies(0, bar), next[bar]);
+        }
         dueFirst("bars that are DEAD now by their WEAR are none", x, 0, 2, 1);
         x = Edges.with("p01;f000127");
         due("17 STUCK, it has no FLIPS", x.dies(0, 0), NONE);
