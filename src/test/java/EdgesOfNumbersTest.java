@@ -201,6 +201,29 @@ public final class EdgesOfNumbersTest {
         due("14 none is alike", far.near(9999, 0), 1);
     }
 
+    /** All digits are 2, which is two FLIPS from the next, but one, which is one from it: that one is changed. */
+    private static void nearByEachPlace() {
+        int[] nearest = {8, 7, -1, 9, -1, 6, 5, 1, 0, 3};
+        int twos = 2;
+        for (int places = 2; places <= 4; places++) {
+            twos = 10 * twos + 2;
+            BarFigures x = Edges.with(Edges.fair(places));
+            for (int k = 0, weight = 1; k < places; k++, weight *= 10) {
+                for (int digit = 0; digit < 10; digit++) {
+                    if (nearest[digit] >= 0) {
+                        int v = twos + weight * (digit - 2);
+                        due("14 the fewest FLIPS, to " + v, x.near(v, 0), 1);
+                        due("14 the NUMBER nearest to " + v, x.near(v, 1), v + weight * (nearest[digit] - digit));
+                    }
+                }
+            }
+        }
+        BarFigures four = Edges.with(Edges.fair(4));
+        due("14 of several the least: by the highest digit", four.near(9999, 1), 3999);
+        due("14 of several the least: by the lowest digit", four.near(1111, 1), 1117);
+        due("14 of several the least: by the lowest digit", four.near(2222, 1), 2223);
+    }
+
     private static void picturesEdges() {
         noPanel("15 STATE", x -> x.pictures());
         int all = 1;
@@ -223,6 +246,7 @@ public final class EdgesOfNumbersTest {
         flipsEdges();
         countingEdges();
         nearEdges();
+        nearByEachPlace();
         picturesEdges();
         Edges.end();
     }
